@@ -595,6 +595,7 @@ public final class OuterRows {
     /** THE TAPE, and the TOKEN of it that is looked at. */
     private static final class Tape {
         static final int MOST = 900;
+        static final int DIGITS = 4;
         static final int END = 0;
         static final int WORD = 1;
         static final int WHOLE = 2;
@@ -638,48 +639,41 @@ public final class OuterRows {
             start = at;
             if (at >= end) {
                 kind = END;
-            } else if (isSmallLetter(bytes[at])) {
-                takeLetters();
-            } else if (isDigit(bytes[at])) {
-                takeDigits();
+            } else if (passRun('a', 'z')) {
+                takeWord();
+            } else if (passRun('0', '9')) {
+                takeWhole();
             } else {
                 kind = bytes[at] == ';' ? SEMICOLON : NO_TOKEN;
                 at++;
             }
         }
 
-        private void takeLetters() {
-            word = 0;
-            while (at < end && isSmallLetter(bytes[at])) {
-                if (at - start < Words.LETTERS) {
-                    word = word | ((long) bytes[at] << (8 * (at - start)));
-                }
+        private boolean passRun(char least, char most) {
+            while (at < end && bytes[at] >= least && bytes[at] <= most) {
                 at++;
             }
-            kind = at - start <= Words.LETTERS ? WORD : NO_TOKEN;
+            return at > start;
         }
 
-        private void takeDigits() {
-            whole = 0;
-            while (at < end && isDigit(bytes[at])) {
-                if (at - start < 4) {
-                    whole = whole * 10 + (bytes[at] - '0');
-                }
-                at++;
+        private void takeWord() {
+            kind = at - start <= Words.LETTERS ? WORD : NO_TOKEN;
+            word = 0;
+            for (int i = 0; i < Words.LETTERS && start + i < at; i++) {
+                word = word | ((long) bytes[start + i] << (8 * i));
             }
-            kind = at - start <= 4 ? WHOLE : NO_TOKEN;
+        }
+
+        private void takeWhole() {
+            kind = at - start <= DIGITS ? WHOLE : NO_TOKEN;
+            whole = 0;
+            for (int i = 0; i < DIGITS && start + i < at; i++) {
+                whole = whole * 10 + (bytes[start + i] - '0');
+            }
         }
 
         boolean says(long pack) {
             return kind == WORD && word == pack;
-        }
-
-        private static boolean isSmallLetter(byte b) {
-            return b >= 'a' && b <= 'z';
-        }
-
-        private static boolean isDigit(byte b) {
-            return b >= '0' && b <= '9';
         }
     }
 
@@ -921,8 +915,15 @@ public final class OuterRows {
         }
 
         private boolean readSide() {
-            number = tape.says(Words.LEFT_WORD) ? LEFT : RIGHT;
-            return number == LEFT ? readWord(Words.LEFT_WORD) : readWord(Words.RIGHT_WORD);
+            if (tape.says(Words.LEFT_WORD)) {
+                number = LEFT;
+            } else if (tape.says(Words.RIGHT_WORD)) {
+                number = RIGHT;
+            } else {
+                return fail(FORM);
+            }
+            tape.next();
+            return true;
         }
 
         private boolean readHow() {
