@@ -12,6 +12,7 @@ public final class TextTest {
         deskFaultStays();
         moreRefusals();
         moreFaultStays();
+        cutTexts();
         tokens();
         formFaults();
         boundFaults();
@@ -148,6 +149,26 @@ public final class TextTest {
         CHECK.due("the tape is empty", x.size(0), 0);
         CHECK.due("the next KEY", Check.more(x, "put left d u at 6"), 1);
         CHECK.due("its letter", x.letter(0, 1, 0), 'd');
+    }
+
+    private static void cutTexts() {
+        // what stands on the tape behind the first n bytes is no part of the text
+        OuterRows x = Check.deskOf(DESK);
+        Check.feed(x, "tick 1234");
+        CHECK.due("tick 12, cut", x, x.more(7), 0, 0);
+        CHECK.due("clock", x.about(5), 12);
+        Check.feed(x, "tick 12345");
+        CHECK.due("tick 1234, cut", x, x.more(9), 0, 0);
+        CHECK.due("clock", x.about(5), 1234);
+        Check.feed(x, "ticks");
+        CHECK.due("tick, cut", x, x.more(4), -1, 4);
+        CHECK.due("where()", x.where(), 4);
+        Check.feed(x, "tick ;tick 1");
+        CHECK.due("tick and a blank, cut", x, x.more(5), -1, 4);
+        CHECK.due("where()", x.where(), 5);
+        Check.feed(x, "tick 1235;desk");
+        CHECK.due("a LINE, cut", x, x.more(9), 0, 0);
+        CHECK.due("the tape is empty", x.size(0), 0);
     }
 
     private static void tokens() {
