@@ -5,6 +5,7 @@ final class Check {
     static final int MIN = Integer.MIN_VALUE;
 
     private final String name;
+    private String sentence = "";
     private int calls = 0;
     private int wrong = 0;
 
@@ -12,19 +13,27 @@ final class Check {
         this.name = name;
     }
 
+    /** The sentence of the document that the answers from here on are of: told with a wrong one. */
+    void says(String ofTheDocument) {
+        sentence = " [" + ofTheDocument + "]";
+    }
+
+    private void tellWrong(String what, String got, String want) {
+        wrong++;
+        System.out.println(name + sentence + ": " + what + " answered " + got + ", due is " + want);
+    }
+
     void due(String what, long got, long want) {
         calls++;
         if (got != want) {
-            wrong++;
-            System.out.println(name + ": " + what + " answered " + got + ", due is " + want);
+            tellWrong(what, Long.toString(got), Long.toString(want));
         }
     }
 
     void due(String what, String got, String want) {
         calls++;
         if (!got.equals(want)) {
-            wrong++;
-            System.out.println(name + ": " + what + " answered " + got + ", due is " + want);
+            tellWrong(what, got, want);
         }
     }
 
@@ -53,6 +62,19 @@ final class Check {
             thrown = true;
         }
         due("single(" + i + ") throws", thrown, true);
+    }
+
+    /** The KEYS that single() answers, one digit each. */
+    static String singles(OuterRows x) {
+        StringBuilder all = new StringBuilder();
+        try {
+            for (int i = 0; i < 8; i++) {
+                all.append(x.single(i));
+            }
+        } catch (NoSuchElementException e) {
+            return all.toString();
+        }
+        return all.toString();
     }
 
     int wrong() {

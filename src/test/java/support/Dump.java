@@ -21,6 +21,7 @@ final class Dump {
             all.append(" traffic ").append(x.traffic(what));
         }
         all.append(" ends ").append(x.busiest()).append(' ').append(x.dearest()).append(' ').append(x.nextLapse());
+        all.append(" debts ").append(x.debts(0)).append(' ').append(x.debts(1)).append(" singles ").append(Check.singles(x));
         for (int who = 0; who < 4; who++) {
             all.append("\nwho ").append(Check.differences(x, who));
             for (int what = 0; what < 4; what++) {
