@@ -312,6 +312,8 @@ public final class EdgeActTest {
         x.keep();
         CHECK.due("keep() changes what is kept alone", Dump.of(x).replace("size 1 size 2", "size 0 size 2"), before);
         String kept = Dump.of(x);
+        int[] traffic = {x.traffic(0), x.traffic(1), x.traffic(2), x.traffic(3)};
+        int dearest = x.dearest();
         Check.more(x, "put left n u at 8;tick 50;put left k v at 1");
         x.how(1);
         x.bounds(900, 900);
@@ -320,10 +322,13 @@ public final class EdgeActTest {
         x.pull(0);
         x.pull(2);
         for (int i = 0; i < 130; i++) {
-            x.event(i % 2, i % 4, i % 3, 1 + i % 9, 50);
+            x.event(i % 2, i / 2 % 4, i / 8 % 3, i % 5 == 0 ? -9 : 1 + i % 9, 50);
         }
         x.pull(2);
-        CHECK.due("all is other", Dump.of(x).equals(kept), false);
+        for (int what = 0; what < 4; what++) {
+            CHECK.due("traffic(" + what + ") is another", x.traffic(what) == traffic[what], false);
+        }
+        CHECK.due("dearest() is another", x.dearest() == dearest, false);
         x.back();
         CHECK.due("all is as it was", Dump.of(x), kept);
         CHECK.due("the next KEY is the fourth", Check.more(x, "put left o u at 8"), 1);

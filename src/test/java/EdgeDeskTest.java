@@ -147,7 +147,13 @@ public final class EdgeDeskTest {
 
     private static void allAnewByADesk() {
         CHECK.says("3: are the DESK from now on");
-        String text = "desk right keep 3 late 1;put right m w at 2";
+        String[] texts = {"desk right keep 3 late 1;put right m w at 2", "desk left keep 3 late 1;put right m w at 2", "desk inner keep 1 late 0"};
+        for (String text : texts) {
+            dueAnew(text);
+        }
+    }
+
+    private static void dueAnew(String text) {
         String fresh = Dump.of(Check.deskOf(text));
         OuterRows x = Check.deskOf("desk full keep 2 late 0;put left k v by 9 at 1;tick 9;back left l v at 9;put right l u at 3;put right k w at 9");
         x.begin(0);
@@ -157,7 +163,7 @@ public final class EdgeDeskTest {
         x.how(1);
         x.keep();
         Check.desk(x, text);
-        CHECK.due("nothing of the DESK ahead", Dump.of(x), fresh);
+        CHECK.due("nothing of the DESK ahead of '" + text + "'", Dump.of(x), fresh);
     }
 
     private static void moreWithoutDesk() {

@@ -132,6 +132,9 @@ public final class EdgeFaultTest {
         LINES.deskFaulty("", 1, 0);
         LINES.sound("tick 1");
         LINES.moreFaulty("", 1, 0);
+        OuterRows x = Check.deskOf(Lines.DESK);
+        Check.desk(x, "tick 1");
+        CHECK.due("MORE behind a TEXT that had no desk", x, Check.more(x, "tick 1"), 0, 0);
     }
 
     private static void faultOfTheLatest() {

@@ -458,8 +458,13 @@ public final class EdgeRowsTest {
         CHECK.due("of several the first again", x, x.busiest(), 1, 0);
         x.event(0, 0, 0, 9, 1);
         CHECK.due("CHANGES count, not how many each tells", x, x.busiest(), 1, 0);
+        x.event(0, 0, 0, 9, 1);
+        CHECK.due("KEY 0 of three like ones", x, x.busiest(), 0, 0);
         x.tick(99);
-        CHECK.due("lapsed ones, too", x, x.busiest(), 1, 0);
+        CHECK.due("lapsed ones, too", x, x.busiest(), 0, 0);
+        x = Full.ofNames();
+        x.event(0, 7, 0, 1, 1);
+        CHECK.due("KEY 7", x, x.busiest(), 7, 0);
     }
 
     private static void dearestOfLikeOnes() {
