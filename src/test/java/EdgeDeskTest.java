@@ -155,7 +155,8 @@ public final class EdgeDeskTest {
 
     private static void dueAnew(String text) {
         String fresh = Dump.of(Check.deskOf(text));
-        OuterRows x = Check.deskOf("desk full keep 2 late 0;put left k v by 9 at 1;tick 9;back left l v at 9;put right l u at 3;put right k w at 9");
+        // each EVENT of the old STORE would be seen in cost(3)
+        OuterRows x = Check.deskOf("desk full keep 2 late 0;put left k v by 9 at 1;put left l v at 1;tick 9;put right l v at 9;put right l u at 3;back left m w at 9");
         x.begin(0);
         x.begin(3);
         x.event(0, 0, 0, 1, 9);
