@@ -1,3 +1,5 @@
+import com.sun.source.tree.BinaryTree;
+import com.sun.source.tree.BlockTree;
 import com.sun.source.tree.ClassTree;
 import com.sun.source.tree.CompilationUnitTree;
 import com.sun.source.tree.ImportTree;
@@ -5,11 +7,13 @@ import com.sun.source.tree.LineMap;
 import com.sun.source.tree.MethodInvocationTree;
 import com.sun.source.tree.MethodTree;
 import com.sun.source.tree.NewClassTree;
+import com.sun.source.tree.ThrowTree;
 import com.sun.source.tree.Tree;
 import com.sun.source.tree.TryTree;
 import com.sun.source.tree.VariableTree;
 import com.sun.source.util.JavacTask;
 import com.sun.source.util.SourcePositions;
+import com.sun.source.util.TreePath;
 import com.sun.source.util.TreePathScanner;
 import com.sun.source.util.Trees;
 import java.io.File;
@@ -59,6 +63,7 @@ public final class RulesTest extends TreePathScanner<Void, Void> {
         CompilationUnitTree unit = task.parse().iterator().next();
         task.analyze();
         RulesTest test = new RulesTest(Trees.instance(task), unit);
+        CHECK.due("a package line", unit.getPackageName() != null, false);
         test.scan(unit, null);
         test.checkDepths();
         CHECK.due("at most twelve classes", test.classes.size() <= 12, true);
@@ -96,6 +101,7 @@ public final class RulesTest extends TreePathScanner<Void, Void> {
                 fields += isStatic ? 0 : 1;
                 CHECK.due(field.getName() + " is static, and not final", isStatic && !flags.contains(Modifier.FINAL), false);
             }
+            CHECK.due("an initialiser block at line " + lineOf(member), member instanceof BlockTree, false);
         }
         CHECK.due("at most twenty fields of " + tree.getSimpleName(), fields <= 20, true);
         return super.visitClass(tree, none);
@@ -117,6 +123,30 @@ public final class RulesTest extends TreePathScanner<Void, Void> {
     public Void visitTry(TryTree tree, Void none) {
         CHECK.due("try at line " + lineOf(tree), 1, 0);
         return super.visitTry(tree, none);
+    }
+
+    /** single() alone throws: rule 6 asks for exactly what the document says, and says nothing of another. */
+    @Override
+    public Void visitThrow(ThrowTree tree, Void none) {
+        CHECK.due("throw at line " + lineOf(tree) + " stands in single()", method.getSimpleName().contentEquals("single"), true);
+        CHECK.due("throw at line " + lineOf(tree), typeOf(tree.getExpression()), "java.util.NoSuchElementException");
+        return super.visitThrow(tree, none);
+    }
+
+    /** Texts aren't joined by +, nor compared by == and !=. */
+    @Override
+    public Void visitBinary(BinaryTree tree, Void none) {
+        boolean hasText = isText(tree.getLeftOperand()) || isText(tree.getRightOperand());
+        CHECK.due(tree.getKind() + " of texts at line " + lineOf(tree), hasText, false);
+        return super.visitBinary(tree, none);
+    }
+
+    private boolean isText(Tree tree) {
+        return Set.of("java.lang.String", "java.lang.Integer").contains(typeOf(tree));
+    }
+
+    private String typeOf(Tree tree) {
+        return String.valueOf(trees.getTypeMirror(new TreePath(getCurrentPath(), tree)));
     }
 
     @Override
